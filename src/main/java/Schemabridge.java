@@ -38,7 +38,7 @@ public final class Schemabridge {
 
     // Room to work in, used again by every call so that the calls make next to no objects.
     private final PairSearch pairSearch = new PairSearch();
-    private final Fields fields = new Fields();
+    private final Fields scanned = new Fields();
     private final Canon canon = new Canon();
     private final Canon otherCanon = new Canon();
     private final Bytes canonical = new Bytes();
@@ -115,15 +115,15 @@ public final class Schemabridge {
     }
 
     public int discard(int message) throws IndexOutOfBoundsException {
-        scanFields(messageAt(message));
+        int count = fieldsOf(messageAt(message)).count();
         removeMessage(message);
-        return fields.count();
+        return count;
     }
 
     public void set(int message, int tag, int value) throws IndexOutOfBoundsException, IllegalArgumentException, IllegalStateException {
         Message changed = messageAt(message);
         checkHasInt(changed.schema, tag);
-        draftWithoutKnown(changed, tag);
+        draftWithoutKnown(fieldsOf(changed), changed.schema, tag);
         draft.addNumberField(tag, changed.schema.typeAt(tag), changed.schema.numberOf(tag, value));
         takeDraft(changed);
     }
@@ -131,9 +131,10 @@ public final class Schemabridge {
     public int append(int message, int tag, byte value) throws IndexOutOfBoundsException, IllegalArgumentException, IllegalStateException {
         Message changed = messageAt(message);
         checkHasBytes(changed.schema, tag);
-        draftWithoutKnown(changed, tag);
+        Fields fields = fieldsOf(changed);
         int last = fields.lastKnown(changed.schema, tag);
         int count = fields.bytesAt(last) + 1;
+        draftWithoutKnown(fields, changed.schema, tag);
         draft.addBytesHead(tag, count);
         draft.addRange(changed.row, fields.bytesBeginAt(last), fields.endAt(last));
         draft.add(value);
@@ -149,7 +150,7 @@ public final class Schemabridge {
         }
         canon.choose(source.row, source.schema);
         canon.writeTo(canonical);
-        draftWithoutKnown(changed, tag);
+        draftWithoutKnown(fieldsOf(changed), changed.schema, tag);
         draft.addBytesHead(tag, canonical.count());
         draft.addRange(canonical, 0, canonical.count());
         takeDraft(changed);
@@ -159,7 +160,7 @@ public final class Schemabridge {
     public int clear(int message, int tag) throws IndexOutOfBoundsException, IllegalArgumentException {
         Message changed = messageAt(message);
         checkTag(tag);
-        scanFields(changed);
+        Fields fields = fieldsOf(changed);
         draft.keepFirst(0);
         int removed = 0;
         for (int place = 0; place < fields.count(); place++) {
@@ -182,14 +183,13 @@ public final class Schemabridge {
     public boolean has(int message, int tag) throws IndexOutOfBoundsException, IllegalArgumentException {
         Message asked = messageAt(message);
         checkTag(tag);
-        scanFields(asked);
-        return fields.lastKnown(asked.schema, tag) != NONE;
+        return fieldsOf(asked).lastKnown(asked.schema, tag) != NONE;
     }
 
     public int get(int message, int tag) throws IndexOutOfBoundsException, IllegalArgumentException {
         Message asked = messageAt(message);
         checkHasInt(asked.schema, tag);
-        scanFields(asked);
+        Fields fields = fieldsOf(asked);
         int last = fields.lastKnown(asked.schema, tag);
         return last == NONE ? asked.schema.defaultAt(tag) : asked.schema.valueOf(tag, fields.numberAt(last));
     }
@@ -197,8 +197,8 @@ public final class Schemabridge {
     public byte byteOf(int message, int tag, int place) throws IndexOutOfBoundsException, IllegalArgumentException, java.util.NoSuchElementException {
         Message asked = messageAt(message);
         checkHasBytes(asked.schema, tag);
-        scanFields(asked);
-        int last = lastKnownOrThrow(asked.schema, tag);
+        Fields fields = fieldsOf(asked);
+        int last = lastKnownOrThrow(fields, asked.schema, tag);
         if (place < 0 || place >= fields.bytesAt(last)) {
             throw new NoSuchElementException("there is no such byte");
         }
@@ -208,18 +208,18 @@ public final class Schemabridge {
     public int open(int message, int tag) throws IndexOutOfBoundsException, IllegalArgumentException, java.util.NoSuchElementException, IllegalStateException {
         Message asked = messageAt(message);
         Schema part = partAt(asked.schema, tag);
-        scanFields(asked);
-        int last = lastKnownOrThrow(asked.schema, tag);
-        fields.scan(asked.row, fields.bytesBeginAt(last), fields.endAt(last));
-        if (fields.problem() != NO_FAULT) {
+        Fields fields = fieldsOf(asked);
+        int last = lastKnownOrThrow(fields, asked.schema, tag);
+        Fields inner = fieldsIn(asked.row, fields.bytesBeginAt(last), fields.endAt(last));
+        if (inner.problem() != NO_FAULT) {
             throw new IllegalStateException("the bytes of the part have a fault");
         }
-        return addMessage(messageOfFields(part));
+        return addMessage(messageOf(inner, part));
     }
 
     public int unknowns(int message) throws IndexOutOfBoundsException {
         Message asked = messageAt(message);
-        scanFields(asked);
+        Fields fields = fieldsOf(asked);
         int count = 0;
         for (int place = 0; place < fields.count(); place++) {
             if (!fields.isKnown(asked.schema, place)) {
@@ -231,7 +231,7 @@ public final class Schemabridge {
 
     public int unknownTag(int message, int place) throws IndexOutOfBoundsException {
         Message asked = messageAt(message);
-        scanFields(asked);
+        Fields fields = fieldsOf(asked);
         int before = 0;
         for (int each = 0; each < fields.count(); each++) {
             if (!fields.isKnown(asked.schema, each)) {
@@ -298,28 +298,25 @@ public final class Schemabridge {
     }
 
     public int fault() {
-        scanTape();
-        return fields.problem();
+        return fieldsOfTape().problem();
     }
 
     public int faultAt() {
-        scanTape();
-        return fields.problemAt();
+        return fieldsOfTape().problemAt();
     }
 
     public int read(int schema) throws IndexOutOfBoundsException, IllegalArgumentException, IllegalStateException {
         Schema by = schemaAt(schema);
-        scanTape();
+        Fields fields = fieldsOfTape();
         if (fields.problem() != NO_FAULT) {
             throw new IllegalArgumentException("the tape has a fault");
         }
-        return addMessage(messageOfFields(by));
+        return addMessage(messageOf(fields, by));
     }
 
     public boolean isCanonical(int schema) throws IndexOutOfBoundsException {
         Schema by = schemaAt(schema);
-        scanTape();
-        if (fields.problem() != NO_FAULT) {
+        if (fieldsOfTape().problem() != NO_FAULT) {
             return false;
         }
         canon.choose(tape, by);
@@ -373,7 +370,7 @@ public final class Schemabridge {
         return part;
     }
 
-    private int lastKnownOrThrow(Schema schema, int tag) {
+    private static int lastKnownOrThrow(Fields fields, Schema schema, int tag) {
         int last = fields.lastKnown(schema, tag);
         if (last == NONE) {
             throw new NoSuchElementException("the message has nothing for the tag");
@@ -381,12 +378,18 @@ public final class Schemabridge {
         return last;
     }
 
-    private void scanFields(Message message) {
-        fields.scan(message.row, 0, message.row.count());
+    private Fields fieldsOf(Message message) {
+        return fieldsIn(message.row, 0, message.row.count());
     }
 
-    private void scanTape() {
-        fields.scan(tape, 0, tape.count());
+    private Fields fieldsOfTape() {
+        return fieldsIn(tape, 0, tape.count());
+    }
+
+    // There is one room for all: the fields of one scan are gone with the next.
+    private Fields fieldsIn(Bytes row, int begin, int end) {
+        scanned.scan(row, begin, end);
+        return scanned;
     }
 
     private void chooseBoth(Message one, Message another) {
@@ -394,7 +397,7 @@ public final class Schemabridge {
         otherCanon.choose(another.row, another.schema);
     }
 
-    private Message messageOfFields(Schema schema) {
+    private static Message messageOf(Fields fields, Schema schema) {
         Message made = new Message(schema);
         for (int place = 0; place < fields.count(); place++) {
             fields.writeTo(made.row, place);
@@ -418,11 +421,10 @@ public final class Schemabridge {
         }
     }
 
-    private void draftWithoutKnown(Message message, int tag) {
-        scanFields(message);
+    private void draftWithoutKnown(Fields fields, Schema schema, int tag) {
         draft.keepFirst(0);
         for (int place = 0; place < fields.count(); place++) {
-            if (fields.tagAt(place) != tag || !fields.isKnown(message.schema, place)) {
+            if (fields.tagAt(place) != tag || !fields.isKnown(schema, place)) {
                 fields.writeTo(draft, place);
             }
         }
@@ -884,11 +886,13 @@ public final class Schemabridge {
         }
 
         // Pairs that an earlier tag has noted lead to no difference, or that tag were the least.
-        private boolean leadsToDifference(Schema older, Schema successor, int tag) {
+        private boolean leadsToDifference(Schema asked, Schema askedSuccessor, int tag) {
             int next = count;
-            notePartsAt(older, successor, tag);
+            notePartsAt(asked, askedSuccessor, tag);
             for (; next < count && next < MOST_PAIRS; next++) {
-                if (differsSomewhere(olders[next], successors[next])) {
+                Schema older = olders[next];
+                Schema successor = successors[next];
+                if (older != null && successor != null && differsSomewhere(older, successor)) {
                     return true;
                 }
             }

@@ -19,14 +19,9 @@ final class ContentsTest {
         CHECKS.end();
     }
 
-    /** Schema 0: tags 1 to 5 with the kinds PLAIN, SIGNED, FOUR, TEXT and PART of 1. Schema 1: tag 1 PLAIN. */
+    /** The part of tag 5 has schema 1, with PLAIN for its tag 1. */
     private static Schemabridge usual() {
-        Schemabridge bridge = new Schemabridge();
-        bridge.addSchema();
-        bridge.addSchema();
-        for (int kind = 0; kind <= 4; kind++) {
-            bridge.setKind(0, kind + 1, kind, 1);
-        }
+        Schemabridge bridge = Bridges.usual(1);
         bridge.setKind(1, 1, Schemabridge.PLAIN, 0);
         return bridge;
     }
@@ -44,7 +39,7 @@ final class ContentsTest {
 
     private static void promise16Has() {
         Schemabridge x = usual();
-        int read = Tapes.readOf(x, 0, 13, 0, 0, 0, 0, 16, 0, 34, 0, 48, 1);
+        int read = Bridges.readOf(x, 0, 13, 0, 0, 0, 0, 16, 0, 34, 0, 48, 1);
         CHECKS.due("has by another type", x.has(read, 1), false);
         CHECKS.due("has with a default", x.has(read, 2), true);
         CHECKS.due("has without a field", x.has(read, 3), false);
@@ -58,6 +53,9 @@ final class ContentsTest {
         CHECKS.due("has no longer", x.has(read, 2), false);
         CHECKS.due("has as TEXT and as PART", x.has(read, 4), true);
         CHECKS.due("has by its kind now", x.has(read, 6), true);
+        x.create(0);
+        CHECKS.due("has of another message", x.has(1, 6), false);
+        CHECKS.due("has of the first again", x.has(read, 6), true);
         for (int message : NO_MESSAGES) {
             CHECKS.thrown("has of message " + message, Checks.PLACE, () -> x.has(message, 0));
         }
@@ -68,7 +66,7 @@ final class ContentsTest {
 
     private static void promise17Get() {
         Schemabridge x = usual();
-        int read = Tapes.readOf(x, 0, 8, 1, 8, 255, 255, 255, 255, 15, 13, 9, 0, 0, 0, 16, 3, 29, 4, 3, 2, 129);
+        int read = Bridges.readOf(x, 0, 8, 1, 8, 255, 255, 255, 255, 15, 13, 9, 0, 0, 0, 16, 3, 29, 4, 3, 2, 129);
         CHECKS.due("get of PLAIN", x.get(read, 1), -1);
         CHECKS.due("get of SIGNED", x.get(read, 2), -2);
         CHECKS.due("get of FOUR", x.get(read, 3), 0x81020304);
@@ -93,7 +91,7 @@ final class ContentsTest {
 
     private static void promise18ByteOf() {
         Schemabridge x = usual();
-        int read = Tapes.readOf(x, 0, 34, 3, 1, 2, 3, 34, 2, 128, 5, 42, 0, 32, 7);
+        int read = Bridges.readOf(x, 0, 34, 3, 1, 2, 3, 34, 2, 128, 5, 42, 0, 32, 7);
         CHECKS.due("byteOf", x.byteOf(read, 4, 0), (byte) -128);
         CHECKS.due("byteOf", x.byteOf(read, 4, 1), (byte) 5);
         for (int place : new int[] {-1, 2, 3, LEAST, GREATEST}) {
@@ -112,7 +110,7 @@ final class ContentsTest {
 
     private static void promise19Open() {
         Schemabridge x = usual();
-        int read = Tapes.readOf(x, 0, 42, 1, 8, 42, 9, 8, 129, 0, 16, 5, 10, 0, 8, 2, 8, 3);
+        int read = Bridges.readOf(x, 0, 42, 1, 8, 42, 9, 8, 129, 0, 16, 5, 10, 0, 8, 2, 8, 3);
         CHECKS.due("open", x.open(read, 5), 1);
         CHECKS.due("schemaOf", x.schemaOf(1), 1);
         CHECKS.due("get", x.get(1, 1), 2);
@@ -120,7 +118,7 @@ final class ContentsTest {
         CHECKS.due("weight, with as few groups as are needed", x.weight(1), 8);
         CHECKS.due("the part that stays", x.weight(read), 16);
         x.discard(read);
-        int empty = Tapes.readOf(x, 0, 42, 0, 8, 1);
+        int empty = Bridges.readOf(x, 0, 42, 0, 8, 1);
         CHECKS.due("open of an empty one", x.open(empty, 5), 2);
         CHECKS.due("weight of that", x.weight(2), 0);
         x.setKind(0, 5, Schemabridge.PART, 0);
@@ -147,7 +145,7 @@ final class ContentsTest {
             x.clear(0, 5);
         }
         // A field of the message behind the part is no part of its bytes.
-        int read = Tapes.readOf(x, 0, 42, 1, 8, 16, 1);
+        int read = Bridges.readOf(x, 0, 42, 1, 8, 16, 1);
         CHECKS.thrown("open with a fault ahead of a field", Checks.STATE, () -> x.open(read, 5));
         x.setPart(0, 5, x.create(1));
         for (int made = 3; made < 12; made++) {
@@ -161,7 +159,7 @@ final class ContentsTest {
 
     private static void promise20And21Unknowns() {
         Schemabridge x = usual();
-        int read = Tapes.readOf(x, 0, 248, 1, 1, 8, 1, 13, 0, 0, 0, 0, 32, 3, 248, 1, 2, 34, 0, 16, 1);
+        int read = Bridges.readOf(x, 0, 248, 1, 1, 8, 1, 13, 0, 0, 0, 0, 32, 3, 248, 1, 2, 34, 0, 16, 1);
         CHECKS.due("unknowns", x.unknowns(read), 4);
         int[] tags = {31, 1, 4, 31};
         for (int place = 0; place < 4; place++) {
@@ -175,6 +173,7 @@ final class ContentsTest {
         CHECKS.due("unknowns by the schema as it is now", x.unknowns(read), 3);
         CHECKS.due("the last unknownTag", x.unknownTag(read, 2), 2);
         x.create(0);
+        CHECKS.due("unknownTag after another message", x.unknownTag(read, 0), 1);
         CHECKS.due("unknowns without fields", x.unknowns(1), 0);
         CHECKS.thrown("unknownTag without fields", Checks.PLACE, () -> x.unknownTag(1, 0));
         for (int message : NO_MESSAGES) {
@@ -198,7 +197,7 @@ final class ContentsTest {
             CHECKS.due("weight of " + values[each] + " with tag 16", x.weight(0), weights[each] + 1);
             x.clear(0, 16);
         }
-        int read = Tapes.readOf(x, 0, 136, 0, 128, 0, 8, 3, 8, 3, 34, 129, 0, 7);
+        int read = Bridges.readOf(x, 0, 136, 0, 128, 0, 8, 3, 8, 3, 34, 129, 0, 7);
         CHECKS.due("weight of all fields, as they are written", x.weight(read), 9);
         for (int message : NO_MESSAGES) {
             CHECKS.thrown("weight of message " + message, Checks.PLACE, () -> x.weight(message));
@@ -214,8 +213,8 @@ final class ContentsTest {
 
     private static void promises23And24Same() {
         Schemabridge x = usual();
-        int one = Tapes.readOf(x, 0, 16, 2, 34, 1, 7, 8, 0, 248, 1, 1, 240, 1, 2);
-        int two = Tapes.readOf(x, 0, 240, 1, 2, 34, 1, 6, 248, 1, 1, 34, 1, 7, 16, 130, 0);
+        int one = Bridges.readOf(x, 0, 16, 2, 34, 1, 7, 8, 0, 248, 1, 1, 240, 1, 2);
+        int two = Bridges.readOf(x, 0, 240, 1, 2, 34, 1, 6, 248, 1, 1, 34, 1, 7, 16, 130, 0);
         same(x, "with itself", one, one, true);
         same(x, "with other orders, overridden ones and defaults", one, two, true);
         x.setDefault(0, 1, 1);
@@ -243,8 +242,8 @@ final class ContentsTest {
         for (int one = 0; one < rows.length; one++) {
             for (int two = one; two < rows.length; two++) {
                 Schemabridge x = usual();
-                Tapes.readOf(x, 0, rows[one]);
-                Tapes.readOf(x, 0, rows[two]);
+                Bridges.readOf(x, 0, rows[one]);
+                Bridges.readOf(x, 0, rows[two]);
                 same(x, "row " + one + " with row " + two, 0, 1, one == two);
             }
         }

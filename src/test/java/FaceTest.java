@@ -152,14 +152,17 @@ final class FaceTest {
         methodLengths(code);
     }
 
+    /** A method's last line is the brace at the indent of its first. */
     private static void methodLengths(List<String> code) {
-        int begin = 0;
         for (int line = 0; line < code.size(); line++) {
-            if (code.get(line).matches(" {4,8}\\w.*\\(.*\\{")) {
-                begin = line;
-            }
-            if (code.get(line).matches(" {4,8}\\}")) {
-                CHECKS.due("at most sixty lines to line " + (line + 1), line - begin < 60 || code.get(line).startsWith("    }"), true);
+            Matcher head = Pattern.compile("( {4,8})[\\w\\[\\]]+ .*\\(.*\\{").matcher(code.get(line));
+            if (head.matches()) {
+                String end = head.group(1) + "}";
+                int last = line;
+                while (last < code.size() && !code.get(last).equals(end)) {
+                    last++;
+                }
+                CHECKS.due("at most sixty lines from line " + (line + 1), last - line < 60, true);
             }
         }
     }

@@ -19,15 +19,8 @@ final class MessagesTest {
         CHECKS.end();
     }
 
-    /** Schema 0: tags 1 to 5 with the kinds PLAIN, SIGNED, FOUR, TEXT and PART of 0. Schema 1 has no kinds. */
     private static Schemabridge usual() {
-        Schemabridge bridge = new Schemabridge();
-        bridge.addSchema();
-        bridge.addSchema();
-        for (int kind = 0; kind <= 4; kind++) {
-            bridge.setKind(0, kind + 1, kind, 0);
-        }
-        return bridge;
+        return Bridges.usual(0);
     }
 
     private static void promise8Create() {
@@ -52,10 +45,10 @@ final class MessagesTest {
 
     private static void promise9Copy() {
         Schemabridge x = usual();
-        int read = Tapes.readOf(x, 0, 8, 1, 34, 1, 7, 8, 2, 13, 9, 0, 0, 0, 248, 1, 3);
+        int read = Bridges.readOf(x, 0, 8, 1, 34, 1, 7, 8, 2, 13, 9, 0, 0, 0, 248, 1, 3);
         CHECKS.due("copy", x.copy(read, 1), 1);
         CHECKS.due("schemaOf", x.schemaOf(1), 1);
-        CHECKS.due("the copied row", Tapes.written(x, 1), "8 1 8 2 13 9 0 0 0 34 1 7 248 1 3");
+        CHECKS.due("the copied row", Bridges.written(x, 1), "8 1 8 2 13 9 0 0 0 34 1 7 248 1 3");
         CHECKS.due("weight", x.weight(1), x.weight(0));
         x.set(0, 1, 77);
         CHECKS.due("unknowns of the copy after a change", x.unknowns(1), 5);
@@ -80,13 +73,13 @@ final class MessagesTest {
         CHECKS.due("discard without fields", x.discard(0), 0);
         CHECKS.thrown("discard again", Checks.PLACE, () -> x.discard(0));
         CHECKS.thrown("weight after discard", Checks.PLACE, () -> x.weight(0));
-        int read = Tapes.readOf(x, 0, 8, 1, 8, 2, 13, 0, 0, 0, 0, 34, 0);
+        int read = Bridges.readOf(x, 0, 8, 1, 8, 2, 13, 0, 0, 0, 0, 34, 0);
         CHECKS.due("discard", x.discard(read), 4);
         int[] sixty = new int[120];
         for (int place = 0; place < 120; place += 2) {
             sixty[place] = place % 4 == 0 ? 8 : 34;
         }
-        CHECKS.due("discard of sixty fields", x.discard(Tapes.readOf(x, 0, sixty)), 60);
+        CHECKS.due("discard of sixty fields", x.discard(Bridges.readOf(x, 0, sixty)), 60);
         x.create(0);
         CHECKS.due("a new message in its place", x.weight(0), 0);
         for (int message : new int[] {-1, 1, 12, LEAST, GREATEST}) {
@@ -109,9 +102,9 @@ final class MessagesTest {
         x.set(0, 3, 0x01020384);
         x.set(0, 2, LEAST);
         x.set(0, 1, -1);
-        CHECKS.due("the canonical bytes", Tapes.written(x, 0), "8 255 255 255 255 15 16 255 255 255 255 15 29 132 3 2 1");
+        CHECKS.due("the canonical bytes", Bridges.written(x, 0), "8 255 255 255 255 15 16 255 255 255 255 15 29 132 3 2 1");
         x.set(0, 2, GREATEST);
-        CHECKS.due("the canonical bytes", Tapes.written(x, 0), "8 255 255 255 255 15 16 254 255 255 255 15 29 132 3 2 1");
+        CHECKS.due("the canonical bytes", Bridges.written(x, 0), "8 255 255 255 255 15 16 254 255 255 255 15 29 132 3 2 1");
         x.set(0, 1, 0);
         CHECKS.due("has the default", x.has(0, 1), true);
         CHECKS.due("weight with the default", x.weight(0), 13);
@@ -119,10 +112,10 @@ final class MessagesTest {
 
     private static void promise11SetRemovesTheKnownAlone() {
         Schemabridge x = usual();
-        int read = Tapes.readOf(x, 0, 8, 1, 13, 9, 0, 0, 0, 8, 2, 16, 2, 10, 1, 5);
+        int read = Bridges.readOf(x, 0, 8, 1, 13, 9, 0, 0, 0, 8, 2, 16, 2, 10, 1, 5);
         x.set(read, 1, 3);
         x.copy(read, 1);
-        CHECKS.due("the row after set", Tapes.written(x, 1), "13 9 0 0 0 10 1 5 8 3 16 2");
+        CHECKS.due("the row after set", Bridges.written(x, 1), "13 9 0 0 0 10 1 5 8 3 16 2");
         CHECKS.due("discard", x.discard(1), 4);
         CHECKS.due("unknowns", x.unknowns(read), 2);
         x.setKind(0, 1, Schemabridge.FOUR, 0);
@@ -130,7 +123,7 @@ final class MessagesTest {
         CHECKS.due("get", x.get(read, 1), 4);
         CHECKS.due("unknown fields with the tag", x.unknowns(read), 2);
         x.copy(read, 1);
-        CHECKS.due("the row after set", Tapes.written(x, 1), "10 1 5 8 3 13 4 0 0 0 16 2");
+        CHECKS.due("the row after set", Bridges.written(x, 1), "10 1 5 8 3 13 4 0 0 0 16 2");
     }
 
     private static void promise11SetThrows() {
@@ -168,12 +161,12 @@ final class MessagesTest {
         CHECKS.due("append", x.append(0, 4, (byte) -1), 2);
         CHECKS.due("append", x.append(0, 5, (byte) 8), 1);
         x.copy(0, 1);
-        CHECKS.due("the row", Tapes.written(x, 1), "8 1 34 2 65 255 42 1 8");
-        int read = Tapes.readOf(x, 0, 34, 2, 1, 2, 32, 9, 34, 1, 3, 37, 1, 1, 1, 1);
+        CHECKS.due("the row", Bridges.written(x, 1), "8 1 34 2 65 255 42 1 8");
+        int read = Bridges.readOf(x, 0, 34, 2, 1, 2, 32, 9, 34, 1, 3, 37, 1, 1, 1, 1);
         CHECKS.due("append to the last one", x.append(read, 4, (byte) 4), 2);
         x.copy(read, 1);
-        CHECKS.due("the row with unknown ones", Tapes.written(x, 3), "32 9 37 1 1 1 1 34 2 3 4");
-        int empty = Tapes.readOf(x, 0, 34, 0);
+        CHECKS.due("the row with unknown ones", Bridges.written(x, 3), "32 9 37 1 1 1 1 34 2 3 4");
+        int empty = Bridges.readOf(x, 0, 34, 0);
         CHECKS.due("append to an empty one", x.append(empty, 4, (byte) 4), 1);
         CHECKS.due("weight", x.weight(empty), 3);
     }
@@ -203,7 +196,7 @@ final class MessagesTest {
         two[116] = 34;
         two[117] = 1;
         two[118] = 7;
-        int read = Tapes.readOf(x, 0, two);
+        int read = Bridges.readOf(x, 0, two);
         CHECKS.due("append that makes room", x.append(read, 4, (byte) 8), 2);
         CHECKS.due("weight", x.weight(read), 4);
     }
@@ -215,21 +208,21 @@ final class MessagesTest {
         x.setKind(2, 1, Schemabridge.PLAIN, 0);
         x.setKind(2, 2, Schemabridge.TEXT, 0);
         x.create(0);
-        int inner = Tapes.readOf(x, 2, 18, 1, 7, 8, 1, 8, 5, 24, 3, 18, 1, 6);
+        int inner = Bridges.readOf(x, 2, 18, 1, 7, 8, 1, 8, 5, 24, 3, 18, 1, 6);
         CHECKS.due("setPart", x.setPart(0, 16, inner), 7);
-        CHECKS.due("the row", Tapes.written(x, 0), "130 1 7 8 5 18 1 6 24 3");
+        CHECKS.due("the row", Bridges.written(x, 0), "130 1 7 8 5 18 1 6 24 3");
         x.set(inner, 1, 0);
         x.set(0, 1, 3);
         CHECKS.due("setPart without the default", x.setPart(0, 16, inner), 5);
         x.copy(0, 1);
-        CHECKS.due("the row", Tapes.written(x, 2), "8 3 130 1 5 18 1 6 24 3");
+        CHECKS.due("the row", Bridges.written(x, 2), "8 3 130 1 5 18 1 6 24 3");
         x.setDefault(2, 1, 9);
         CHECKS.due("setPart by the schema as it is now", x.setPart(0, 16, inner), 7);
         x.create(2);
         CHECKS.due("setPart of an empty one", x.setPart(0, 16, 3), 0);
         CHECKS.due("has", x.has(0, 16), true);
-        CHECKS.due("the row", Tapes.written(x, 0), "8 3 130 1 0");
-        int read = Tapes.readOf(x, 0, 130, 1, 1, 8, 128, 1, 4, 130, 1, 0);
+        CHECKS.due("the row", Bridges.written(x, 0), "8 3 130 1 0");
+        int read = Bridges.readOf(x, 0, 130, 1, 1, 8, 128, 1, 4, 130, 1, 0);
         CHECKS.due("setPart among others", x.setPart(read, 16, 3), 0);
         CHECKS.due("unknowns", x.unknowns(read), 1);
         CHECKS.due("weight", x.weight(read), 6);
@@ -240,9 +233,9 @@ final class MessagesTest {
         x.create(0);
         x.set(0, 1, 2);
         CHECKS.due("setPart of itself", x.setPart(0, 5, 0), 2);
-        CHECKS.due("the row", Tapes.written(x, 0), "8 2 42 2 8 2");
+        CHECKS.due("the row", Bridges.written(x, 0), "8 2 42 2 8 2");
         CHECKS.due("setPart of itself again", x.setPart(0, 5, 0), 6);
-        CHECKS.due("the row", Tapes.written(x, 0), "8 2 42 6 8 2 42 2 8 2");
+        CHECKS.due("the row", Bridges.written(x, 0), "8 2 42 6 8 2 42 2 8 2");
         x.clear(0, 5);
         for (int bytes = 1; bytes <= 54; bytes++) {
             x.append(0, 4, (byte) bytes);
@@ -281,13 +274,13 @@ final class MessagesTest {
 
     private static void promise14Clear() {
         Schemabridge x = usual();
-        int read = Tapes.readOf(x, 0, 8, 1, 13, 9, 0, 0, 0, 8, 2, 16, 2, 10, 1, 5, 248, 1, 1);
+        int read = Bridges.readOf(x, 0, 8, 1, 13, 9, 0, 0, 0, 8, 2, 16, 2, 10, 1, 5, 248, 1, 1);
         CHECKS.due("clear of a tag without fields", x.clear(read, 3), 0);
         CHECKS.due("clear of known and unknown ones", x.clear(read, 1), 4);
         CHECKS.due("weight", x.weight(read), 5);
         CHECKS.due("clear again", x.clear(read, 1), 0);
         CHECKS.due("clear of an unknown one", x.clear(read, 31), 1);
-        CHECKS.due("what is left", Tapes.written(x, read), "16 2");
+        CHECKS.due("what is left", Bridges.written(x, read), "16 2");
         for (int message : new int[] {-1, 1, 12, LEAST, GREATEST}) {
             CHECKS.thrown("clear of message " + message, Checks.PLACE, () -> x.clear(message, 0));
         }

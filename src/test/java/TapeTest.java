@@ -20,15 +20,8 @@ final class TapeTest {
         CHECKS.end();
     }
 
-    /** Schema 0: tags 1 to 5 with the kinds PLAIN, SIGNED, FOUR, TEXT and PART of 0. Schema 1 has no kinds. */
     private static Schemabridge usual() {
-        Schemabridge bridge = new Schemabridge();
-        bridge.addSchema();
-        bridge.addSchema();
-        for (int kind = 0; kind <= 4; kind++) {
-            bridge.setKind(0, kind + 1, kind, 0);
-        }
-        return bridge;
+        return Bridges.usual(0);
     }
 
     private static void promise25Write() {
@@ -40,10 +33,10 @@ final class TapeTest {
         x.set(0, 1, 300);
         x.set(0, 3, -2);
         CHECKS.due("write", x.write(0), 8);
-        CHECKS.due("the tape", Tapes.told(x), "8 172 2 29 254 255 255 255");
+        CHECKS.due("the tape", Bridges.told(x), "8 172 2 29 254 255 255 255");
         CHECKS.due("write again", x.write(0), 8);
         x.set(0, 1, 5);
-        CHECKS.due("the tape after a change", Tapes.told(x), "8 172 2 29 254 255 255 255");
+        CHECKS.due("the tape after a change", Bridges.told(x), "8 172 2 29 254 255 255 255");
         CHECKS.due("the message after a write", x.weight(0), 7);
         for (int message : new int[] {-1, 1, 12, LEAST, GREATEST}) {
             CHECKS.thrown("write of message " + message, Checks.PLACE, () -> x.write(message));
@@ -57,28 +50,31 @@ final class TapeTest {
 
     private static void promise25WriteOrdersByTags() {
         Schemabridge x = usual();
-        int read = Tapes.readOf(x, 0, 248, 1, 1, 50, 1, 9, 48, 2, 34, 0, 53, 1, 0, 0, 0, 48, 1, 240, 1, 5, 8, 1, 10, 0);
-        CHECKS.due("the tape", Tapes.written(x, read), "8 1 10 0 34 0 50 1 9 48 2 53 1 0 0 0 48 1 240 1 5 248 1 1");
-        CHECKS.due("the tape by no kinds", Tapes.written(x, x.copy(read, 1)),
+        int read = Bridges.readOf(x, 0, 248, 1, 1, 50, 1, 9, 48, 2, 34, 0, 53, 1, 0, 0, 0, 48, 1, 240, 1, 5, 8, 1, 10, 0);
+        CHECKS.due("the tape", Bridges.written(x, read), "8 1 10 0 34 0 50 1 9 48 2 53 1 0 0 0 48 1 240 1 5 248 1 1");
+        CHECKS.due("the tape by no kinds", Bridges.written(x, x.copy(read, 1)),
             "8 1 10 0 34 0 50 1 9 48 2 53 1 0 0 0 48 1 240 1 5 248 1 1");
         x.setKind(0, 6, Schemabridge.PLAIN, 0);
-        CHECKS.due("the tape by a kind more", Tapes.written(x, read), "8 1 10 0 34 0 50 1 9 53 1 0 0 0 48 1 240 1 5 248 1 1");
+        x.setKind(0, 31, Schemabridge.SIGNED, 0);
+        CHECKS.due("the tape by two kinds more", Bridges.written(x, read), "8 1 10 0 34 0 50 1 9 53 1 0 0 0 48 1 240 1 5 248 1 1");
+        x.setDefault(0, 31, -1);
+        CHECKS.due("the tape by a default of the last tag", Bridges.written(x, read), "8 1 10 0 34 0 50 1 9 53 1 0 0 0 48 1 240 1 5");
     }
 
     private static void promise25WriteLeavesOutWhatTellsNothing() {
         Schemabridge x = usual();
-        int read = Tapes.readOf(x, 0, 8, 3, 10, 1, 4, 8, 0, 16, 0, 16, 9, 29, 0, 0, 0, 0, 34, 2, 1, 1, 34, 0, 42, 0);
-        CHECKS.due("the tape", Tapes.written(x, read), "10 1 4 16 9 34 0 42 0");
+        int read = Bridges.readOf(x, 0, 8, 3, 10, 1, 4, 8, 0, 16, 0, 16, 9, 29, 0, 0, 0, 0, 34, 2, 1, 1, 34, 0, 42, 0);
+        CHECKS.due("the tape", Bridges.written(x, read), "10 1 4 16 9 34 0 42 0");
         x.setDefault(0, 1, 3);
         x.setDefault(0, 2, -5);
         x.setDefault(0, 3, 1);
-        CHECKS.due("the tape by other defaults", Tapes.written(x, read), "10 1 4 8 0 29 0 0 0 0 34 0 42 0");
+        CHECKS.due("the tape by other defaults", Bridges.written(x, read), "10 1 4 8 0 29 0 0 0 0 34 0 42 0");
         x.dropKind(0, 1);
-        CHECKS.due("the tape by fewer kinds", Tapes.written(x, read), "8 3 10 1 4 8 0 29 0 0 0 0 34 0 42 0");
+        CHECKS.due("the tape by fewer kinds", Bridges.written(x, read), "8 3 10 1 4 8 0 29 0 0 0 0 34 0 42 0");
         x.setKind(0, 1, Schemabridge.SIGNED, 0);
         x.setDefault(0, 1, LEAST);
         x.set(read, 1, LEAST);
-        CHECKS.due("the tape by a large default", Tapes.written(x, read), "10 1 4 29 0 0 0 0 34 0 42 0");
+        CHECKS.due("the tape by a large default", Bridges.written(x, read), "10 1 4 29 0 0 0 0 34 0 42 0");
         CHECKS.due("get", x.get(read, 1), LEAST);
     }
 
@@ -99,10 +95,10 @@ final class TapeTest {
 
     private static void promise27Cut() {
         Schemabridge x = usual();
-        Tapes.lay(x, 1, 2, 3, 4, 5);
+        Bridges.lay(x, 1, 2, 3, 4, 5);
         CHECKS.due("cut to the same length", x.cut(5), 0);
         CHECKS.due("cut", x.cut(3), 2);
-        CHECKS.due("the tape", Tapes.told(x), "1 2 3");
+        CHECKS.due("the tape", Bridges.told(x), "1 2 3");
         for (int length : new int[] {-1, 4, 5, 121, LEAST, GREATEST}) {
             CHECKS.thrown("cut to " + length, Checks.PLACE, () -> x.cut(length));
         }
@@ -116,7 +112,7 @@ final class TapeTest {
         Schemabridge x = usual();
         CHECKS.due("length", x.length(), 0);
         CHECKS.thrown("byteAt(0) of nothing", Checks.PLACE, () -> x.byteAt(0));
-        Tapes.lay(x, 255, 128, 127);
+        Bridges.lay(x, 255, 128, 127);
         CHECKS.due("length", x.length(), 3);
         CHECKS.due("byteAt(0)", x.byteAt(0), (byte) -1);
         CHECKS.due("byteAt(1)", x.byteAt(1), (byte) -128);
@@ -131,12 +127,14 @@ final class TapeTest {
     private static void fault(int want, int wantAt, int... bytes) {
         Schemabridge x = new Schemabridge();
         x.addSchema();
-        Tapes.lay(x, bytes);
-        String what = " of " + Tapes.told(x);
+        Bridges.lay(x, bytes);
+        String what = " of " + Bridges.told(x);
+        x.create(0);
         CHECKS.due("fault()" + what, x.fault(), want);
+        CHECKS.due("unknowns(0)", x.unknowns(0), 0);
         CHECKS.due("faultAt()" + what, x.faultAt(), wantAt);
         Object read = Checks.thrownBy(() -> x.read(0));
-        CHECKS.due("read(0)" + what, read, want == 0 ? "no exception but 0" : "IllegalArgumentException");
+        CHECKS.due("read(0)" + what, read, want == 0 ? "no exception but 1" : "IllegalArgumentException");
         if (want != 0) {
             CHECKS.due("isCanonical(0)" + what, x.isCanonical(0), false);
         }
@@ -221,13 +219,18 @@ final class TapeTest {
         bytes[1] = 117;
         bytes[119] = 8;
         fault(1, 119, bytes);
+        Schemabridge x = usual();
+        Bridges.lay(x, 8, 1, 9);
+        CHECKS.due("faultAt()", x.faultAt(), 2);
+        x.cut(0);
+        CHECKS.due("faultAt() of nothing after that", x.faultAt(), Schemabridge.NONE);
     }
 
     private static void promise32Read() {
         Schemabridge x = usual();
         CHECKS.due("read of nothing", x.read(0), 0);
         CHECKS.due("weight", x.weight(0), 0);
-        Tapes.lay(x, 29, 1, 0, 0, 128, 8, 130, 0, 34, 130, 0, 7, 8, 240, 1, 3);
+        Bridges.lay(x, 29, 1, 0, 0, 128, 8, 130, 0, 34, 130, 0, 7, 8, 240, 1, 3);
         CHECKS.due("read", x.read(0), 1);
         CHECKS.due("read by another schema", x.read(1), 2);
         CHECKS.due("the tape after a read", x.length(), 16);
@@ -243,14 +246,14 @@ final class TapeTest {
         }
         x.cut(0);
         CHECKS.due("weight after a cut", x.weight(1), 14);
-        int number = Tapes.readOf(x, 1, 8, 128, 128, 128, 128, 15);
+        int number = Bridges.readOf(x, 1, 8, 128, 128, 128, 128, 15);
         x.setKind(1, 1, Schemabridge.PLAIN, 0);
         CHECKS.due("get of 15 groups up", x.get(number, 1), 15 << 28);
     }
 
     private static void promise32ReadThrows() {
         Schemabridge x = usual();
-        Tapes.lay(x, 8);
+        Bridges.lay(x, 8);
         for (int schema : new int[] {-1, 2, 6, LEAST, GREATEST}) {
             CHECKS.thrown("read by schema " + schema, Checks.PLACE, () -> x.read(schema));
         }
@@ -263,7 +266,7 @@ final class TapeTest {
         x.put((byte) 1);
         CHECKS.thrown("read of a thirteenth with a fault", Checks.ARGUMENT, () -> x.read(0));
         CHECKS.thrown("read of a thirteenth without a schema", Checks.PLACE, () -> x.read(2));
-        CHECKS.due("the tape after that", Tapes.told(x), "8 1 1");
+        CHECKS.due("the tape after that", Bridges.told(x), "8 1 1");
         x.cut(2);
         x.discard(4);
         CHECKS.due("read in the free number", x.read(1), 4);
@@ -271,8 +274,8 @@ final class TapeTest {
 
     private static void canonical(boolean want, boolean wantByNone, int... bytes) {
         Schemabridge x = usual();
-        Tapes.lay(x, bytes);
-        String what = " of " + Tapes.told(x);
+        Bridges.lay(x, bytes);
+        String what = " of " + Bridges.told(x);
         CHECKS.due("isCanonical(0)" + what, x.isCanonical(0), want);
         CHECKS.due("isCanonical(1)" + what, x.isCanonical(1), wantByNone);
         CHECKS.due("the tape after that" + what, x.length(), bytes.length);
@@ -301,10 +304,15 @@ final class TapeTest {
         for (int number = 0; number < 12; number++) {
             x.create(0);
         }
-        Tapes.lay(x, 8, 1);
+        Bridges.lay(x, 8, 1);
         CHECKS.due("isCanonical with 12 messages", x.isCanonical(0), true);
         x.setDefault(0, 1, 1);
         CHECKS.due("isCanonical by another default", x.isCanonical(0), false);
+        x.put((byte) 8);
+        CHECKS.due("isCanonical with a fault", x.isCanonical(1), false);
+        x.cut(2);
+        CHECKS.due("weight(0) in between", x.discard(0), 0);
+        CHECKS.due("isCanonical without the fault", x.isCanonical(1), true);
         CHECKS.due("the messages after that", x.weight(11), 0);
     }
 

@@ -1,6 +1,17 @@
-/** Puts whole rows of bytes on the tape of an object, and takes them from it. */
-final class Tapes {
-    private Tapes() {
+/** The object that most tests begin with, and its tape with whole rows of bytes. */
+final class Bridges {
+    private Bridges() {
+    }
+
+    /** Schema 0 has PLAIN, SIGNED, FOUR, TEXT and PART for the tags 1 to 5; schema 1 has no kinds. */
+    static Schemabridge usual(int schemaOfThePart) {
+        Schemabridge bridge = new Schemabridge();
+        bridge.addSchema();
+        bridge.addSchema();
+        for (int kind = 0; kind <= 4; kind++) {
+            bridge.setKind(0, kind + 1, kind, schemaOfThePart);
+        }
+        return bridge;
     }
 
     static void lay(Schemabridge bridge, int... bytes) {
