@@ -52,7 +52,7 @@ public final class Schemabridge {
 
     public int addSchema() throws IllegalStateException {
         int number = schemaCount;
-        if (number >= schemas.length) {
+        if (number < 0 || number >= schemas.length) {
             throw new IllegalStateException("there are 6 schemas");
         }
         schemas[number] = new Schema(number);
@@ -442,12 +442,15 @@ public final class Schemabridge {
     private static final class Schema {
         final int number;
         private final int[] kinds = new int[LAST_TAG + 1];
+        // Kept beside the kinds, as each field that is looked at asks for the type.
+        private final int[] types = new int[LAST_TAG + 1];
         private final int[] defaults = new int[LAST_TAG + 1];
         private final Schema[] parts = new Schema[LAST_TAG + 1];
 
         Schema(int number) {
             this.number = number;
             Arrays.fill(kinds, NONE);
+            Arrays.fill(types, NONE);
         }
 
         int kindAt(int tag) {
@@ -466,6 +469,7 @@ public final class Schemabridge {
         void giveKind(int tag, int kind, Schema part) {
             if (isTag(tag)) {
                 kinds[tag] = kind;
+                types[tag] = typeOfKind(kind);
                 defaults[tag] = 0;
                 parts[tag] = part;
             }
@@ -482,19 +486,12 @@ public final class Schemabridge {
         }
 
         boolean hasBytes(int tag) {
-            int kind = kindAt(tag);
-            return kind == TEXT || kind == PART;
+            return typeAt(tag) == BYTES;
         }
 
-        boolean knows(int tag, int type) {
-            return kindAt(tag) != NONE && typeAt(tag) == type;
-        }
-
+        /** The type of the known fields with a tag; NONE, which no field has, without a kind. */
         int typeAt(int tag) {
-            if (hasBytes(tag)) {
-                return BYTES;
-            }
-            return kindAt(tag) == FOUR ? FIXED : NUMBER;
+            return isTag(tag) ? types[tag] : NONE;
         }
 
         int numberOf(int tag, int value) {
@@ -514,6 +511,16 @@ public final class Schemabridge {
             int otherKind = other.kindAt(tag);
             boolean bothHaveKinds = kind != NONE && otherKind != NONE;
             return bothHaveKinds && kind != otherKind && (isIntKind(kind) || isIntKind(otherKind));
+        }
+
+        private static int typeOfKind(int kind) {
+            if (kind == TEXT || kind == PART) {
+                return BYTES;
+            }
+            if (kind == PLAIN || kind == SIGNED) {
+                return NUMBER;
+            }
+            return kind == FOUR ? FIXED : NONE;
         }
 
         private static boolean isIntKind(int kind) {
@@ -681,7 +688,7 @@ public final class Schemabridge {
         }
 
         boolean isKnown(Schema schema, int place) {
-            return schema.knows(tagAt(place), typeAt(place));
+            return isPlace(place) && schema.typeAt(tags[place]) == types[place];
         }
 
         int lastKnown(Schema schema, int tag) {
@@ -889,7 +896,7 @@ public final class Schemabridge {
         private boolean leadsToDifference(Schema asked, Schema askedSuccessor, int tag) {
             int next = count;
             notePartsAt(asked, askedSuccessor, tag);
-            for (; next < count && next < MOST_PAIRS; next++) {
+            for (; next >= 0 && next < count && next < MOST_PAIRS; next++) {
                 Schema older = olders[next];
                 Schema successor = successors[next];
                 if (older != null && successor != null && differsSomewhere(older, successor)) {
@@ -919,7 +926,7 @@ public final class Schemabridge {
 
         private void notePair(Schema older, Schema successor) {
             int pair = older.number * MOST_SCHEMAS + successor.number;
-            if (pair >= 0 && pair < MOST_PAIRS && count < MOST_PAIRS && !isNoted[pair]) {
+            if (pair >= 0 && pair < MOST_PAIRS && count >= 0 && count < MOST_PAIRS && !isNoted[pair]) {
                 isNoted[pair] = true;
                 olders[count] = older;
                 successors[count] = successor;
