@@ -28,7 +28,7 @@ final class EdgesTest {
     /** Not the headings of paragraphs, what goes ahead of the calls, and what the document leaves free. */
     private static boolean isPromised(String section, String sentence) {
         boolean isHeading = sentence.matches("\\w+\\.");
-        boolean isFree = sentence.equals("what later calls answer is free.") || sentence.startsWith("Schemabridge, a wire format");
+        boolean isFree = sentence.equals("what later calls answer is free.");
         return (section.equals("What it is") || section.equals("Terms") || section.startsWith("Promise"))
             && !isHeading && !isFree && !sentence.startsWith("Ahead of the calls");
     }

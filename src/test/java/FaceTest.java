@@ -17,46 +17,15 @@ import java.util.regex.Pattern;
 final class FaceTest {
     private static final Checks CHECKS = new Checks("FaceTest");
 
-    private static final String PLACE = "IndexOutOfBoundsException";
-    private static final String PLACE_ARGUMENT = PLACE + " IllegalArgumentException";
-    private static final String ALL = PLACE_ARGUMENT + " IllegalStateException";
-    private static final String[] FACE = {
-        "int addSchema() IllegalStateException",
-        "int setKind(int int int int) " + PLACE_ARGUMENT,
-        "int dropKind(int int) " + PLACE_ARGUMENT,
-        "int setDefault(int int int) " + ALL,
-        "int kindOf(int int) " + PLACE_ARGUMENT,
-        "int conflict(int int) " + PLACE,
-        "int create(int) " + PLACE + " IllegalStateException",
-        "int copy(int int) " + PLACE + " IllegalStateException",
-        "int discard(int) " + PLACE,
-        "void set(int int int) " + ALL,
-        "int append(int int byte) " + ALL,
-        "int setPart(int int int) " + ALL,
-        "int clear(int int) " + PLACE_ARGUMENT,
-        "int schemaOf(int) " + PLACE,
-        "boolean has(int int) " + PLACE_ARGUMENT,
-        "int get(int int) " + PLACE_ARGUMENT,
-        "byte byteOf(int int int) " + PLACE_ARGUMENT + " NoSuchElementException",
-        "int open(int int) " + PLACE_ARGUMENT + " NoSuchElementException IllegalStateException",
-        "int unknowns(int) " + PLACE,
-        "int unknownTag(int int) " + PLACE,
-        "int weight(int) " + PLACE,
-        "boolean areSame(int int) " + PLACE,
-        "boolean areSameByBytes(int int) " + PLACE,
-        "int write(int) " + PLACE,
-        "int put(byte) IllegalStateException",
-        "int cut(int) " + PLACE,
-        "int length() ",
-        "byte byteAt(int) " + PLACE,
-        "int fault() ",
-        "int faultAt() ",
-        "int read(int) " + ALL,
-        "boolean isCanonical(int) " + PLACE,
-    };
+    private static final Pattern METHOD = Pattern.compile(" *public (\\w+) (\\w+)\\((.*)\\)(?: throws (.*))?;");
+
+    /** The methods as the document writes them: what they answer, their names, their parameters, what they throw. */
+    private static final Set<String> FACE = new TreeSet<>();
+    private static final Set<String> NAMES = new TreeSet<>();
 
     public static void main(String[] args) throws IOException {
         constants();
+        readFace(Files.readAllLines(Path.of(args[1])));
         methods();
         otherMembers();
         text(Files.readAllLines(Path.of(args[0])));
@@ -70,6 +39,19 @@ final class FaceTest {
         CHECKS.due("the constants", Arrays.toString(constants), "[0, 2, 5, 0, 1, 2, 3, 4, -1]");
     }
 
+    private static void readFace(List<String> document) {
+        for (String line : document) {
+            Matcher method = METHOD.matcher(line);
+            if (method.matches()) {
+                String parameters = method.group(3).replaceAll("(\\w+) \\w+,?", "$1");
+                String thrown = method.group(4) == null ? "" : method.group(4).replaceAll("java\\.util\\.|,", "");
+                FACE.add(method.group(1) + " " + method.group(2) + "(" + parameters + ") " + thrown);
+                NAMES.add(method.group(2));
+            }
+        }
+        CHECKS.due("how many methods the document has", FACE.size(), 32);
+    }
+
     private static void methods() {
         Set<String> got = new TreeSet<>();
         for (Method method : Schemabridge.class.getDeclaredMethods()) {
@@ -79,7 +61,7 @@ final class FaceTest {
                 CHECKS.due(method.getName() + " is static", Modifier.isStatic(method.getModifiers()), false);
             }
         }
-        CHECKS.due("the public methods", got, new TreeSet<>(Arrays.asList(FACE)));
+        CHECKS.due("the public methods", got, FACE);
     }
 
     private static String names(Class<?>[] types) {
@@ -108,26 +90,22 @@ final class FaceTest {
         }
         CHECKS.due("the public constants", constants, 9);
         CHECKS.due("at most twenty fields", fields <= 20, true);
-        Set<String> face = new TreeSet<>();
-        for (String method : FACE) {
-            face.add(method.substring(method.indexOf(' ') + 1, method.indexOf('(')));
-        }
-        methodsThatAreNotOfTheFace(Schemabridge.class, face);
+        methodsThatAreNotOfTheFace(Schemabridge.class);
         for (Class<?> inside : Schemabridge.class.getDeclaredClasses()) {
             CHECKS.due(inside.getSimpleName() + " is static", Modifier.isStatic(inside.getModifiers()), true);
             CHECKS.due(inside.getSimpleName() + " is public", Modifier.isPublic(inside.getModifiers()), false);
             CHECKS.due("the fields of " + inside.getSimpleName(), inside.getDeclaredFields().length <= 20, true);
-            methodsThatAreNotOfTheFace(inside, face);
+            methodsThatAreNotOfTheFace(inside);
         }
     }
 
-    private static void methodsThatAreNotOfTheFace(Class<?> type, Set<String> face) {
+    private static void methodsThatAreNotOfTheFace(Class<?> type) {
         for (Method method : type.getDeclaredMethods()) {
             if (type == Schemabridge.class && !Modifier.isPublic(method.getModifiers())) {
                 CHECKS.due(method.getName() + " is private", Modifier.isPrivate(method.getModifiers()), true);
             }
             if (!Modifier.isPublic(method.getModifiers())) {
-                CHECKS.due(method.getName() + " bears a public name", face.contains(method.getName()), false);
+                CHECKS.due(method.getName() + " bears a public name", NAMES.contains(method.getName()), false);
             }
             CHECKS.due("the parameters of " + method.getName(), method.getParameterCount() <= 7, true);
         }

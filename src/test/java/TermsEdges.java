@@ -15,6 +15,25 @@ final class TermsEdges extends Edges {
 
     // ---- What it is
 
+    private static void whatItIsAnOlderReader() {
+        of("What it is", "a reader with an older schema keeps and passes on what it does not know");
+        Schemabridge x = usual();
+        x.setKind(1, 1, PLAIN, 0);
+        int newer = Bridges.readOf(x, 0, 8, 1, 16, 5, 29, 4, 3, 2, 1, 34, 2, 65, 66, 42, 2, 8, 7, 248, 1, 9);
+        x.write(newer);
+        int older = x.read(1);
+        due("what the older one does not know", Bridges.unknownTags(x, older), " 2 3 4 5 31");
+        x.set(older, 1, 300);
+        due("what it passes on", Bridges.written(x, older), "8 172 2 16 5 29 4 3 2 1 34 2 65 66 42 2 8 7 248 1 9");
+        int back = x.read(0);
+        due("what the older one has changed", x.get(back, 1), 300);
+        due("a SIGNED that came by it", x.get(back, 2), -3);
+        due("a FOUR that came by it", x.get(back, 3), 0x01020304);
+        due("a TEXT that came by it", x.byteOf(back, 4, 1), (byte) 66);
+        due("a PART that came by it", x.get(x.open(back, 5), 1), 7);
+        due("what neither knows", Bridges.unknownTags(x, back), " 31");
+    }
+
     private static void whatItIsThe512thCall() {
         of("What it is", "An object is used for at most 512 calls after it has been made");
         Schemabridge x = Bridges.full();
